@@ -1185,7 +1185,6 @@ public final class TokenHeart {
             for (int t = 0; t < TOKENS; t++) {
                 if (marked[t] != 0) {
                     giveRoom(nearestStaying(t), state.tokens.room[t]);
-                    state.tokens.room[t] = 0;
                 }
             }
         }
@@ -1905,12 +1904,11 @@ public final class TokenHeart {
                 return false;
             }
             y[size] = found;
-            found = 0;
-            if (what != APART && !readRights()) {
-                return false;
+            if (what == APART) {
+                return true;
             }
-            rights[size] = found;
-            return true;
+            rights[size] = readRights();
+            return rights[size] != 0;
         }
 
         private boolean isNext(int sign) {
@@ -1949,18 +1947,16 @@ public final class TokenHeart {
             return digits > 0;
         }
 
-        private boolean readRights() {
-            if (!readBlanks()) {
-                return false;
-            }
-            found = 0;
-            int bit = nextRight();
-            for (int i = 0; i < LETTERS.length() && bit != 0 && (found & bit) == 0; i++) {
-                found |= bit;
+        /** The rights that are told; 0 if there are none, which no statement can do with. */
+        private int readRights() {
+            int all = 0;
+            int bit = readBlanks() ? nextRight() : 0;
+            for (int i = 0; i < LETTERS.length() && bit != 0 && (all & bit) == 0; i++) {
+                all |= bit;
                 at++;
                 bit = nextRight();
             }
-            return found != 0;
+            return all;
         }
 
         private int nextRight() {

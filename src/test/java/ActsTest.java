@@ -169,6 +169,8 @@ public final class ActsTest {
         x.act(0, Due.MAKE, 0, Due.bc(Due.PAGE, 4));
         due.is("a page isn't room", x.act(0, Due.SPLIT, 4, Due.bc(1, 5)), -7);
         due.is("room in all", Due.allRoom(x), 960);
+        due.is("1 is enough", x.act(0, Due.SPLIT, 0, Due.bc(1, 3)), 1);
+        due.is("1", x.token(x.slot(0, 3), 3), 1);
     }
 
     private static void make() {

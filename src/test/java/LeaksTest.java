@@ -82,6 +82,18 @@ public final class LeaksTest {
         x.runner(2, 3);
         Due.runner(x, 2, 1, 1, 0, 0, 3, 0, 0, 0);
         due.is("not in another box", x.leak(3, 1, 1620), 1);
+        x = new TokenHeart();
+        Due.runner(x, 0, 3, 2, 0, 0, 14, 0, 0, 0, 1, 1, 0, 0, 3, 2, 0, 0);
+        Due.runner(x, 0, 0, 0, 0, 0);
+        due.is("slot 0, too", x.leak(1, 0, 205), 2);
+        x.rule(1);
+        Due.rows(x, 0, 1);
+        x.time(0);
+        x.run(1);
+        due.is("it is stopped", x.look(1, 1), 3);
+        due.is("one that is stopped sees that, too", x.leak(1, 0, 205), 2);
+        x.act(0, Due.DROP, 0, 0);
+        due.is("nothing to drop", x.leak(1, 0, 205), 1);
     }
 
     /** By rule 0 the time of one that stops is the other's; by rule 1 it is nobody's. */
@@ -93,6 +105,8 @@ public final class LeaksTest {
         x.time(0);
         due.is("by fair turns", x.leak(1, 0, 520), 2);
         due.is("by the row", x.leak(1, 1, 520), 1);
+        Due.runner(x, 0, 1, 0, 0, 0, 1, 0, 0, 0, 1, 0, 0, 0, 1, 0, 0, 0, 1, 0, 0, 0, 1, 0, 0, 0);
+        due.is("by its place alone", x.leak(2, 0, 508), 2);
         due.is("the rule is as before", x.count(8), 0);
     }
 

@@ -60,6 +60,19 @@ public final class LookingTest {
         x.act(0, Due.DROP, 1, 0);
         x.act(0, Due.MAKE, 0, Due.bc(Due.LINE, 1));
         due.is("a new line has none", x.thing(1, 4), 0);
+        Due.rows(x, 0, 5, 6, 7);
+        x.in(1, 0);
+        x.load(0, 1);
+        x.act(0, Due.DROP, 1, 0);
+        x.act(0, Due.MAKE, 0, Due.bc(Due.LINE, 1));
+        due.is("a new line has no IN", x.thing(1, 5), 0);
+        due.is("nothing to load", x.load(0, 1), 0);
+        x.act(0, Due.MAKE, 0, Due.bc(Due.LINE, 2));
+        x.store(0, 2, 9);
+        for (int i = 0; i < 32; i++) {
+            x.store(0, 1, i + 100);
+        }
+        due.is("the rows of others stay", x.out(2, 0), 9);
     }
 
     private static void token() {
@@ -240,5 +253,35 @@ public final class LookingTest {
         due.is("doomed", x.count(3), 2);
         x.run(1);
         due.is("all are gone", x.count(2), 2);
+        tokenZero();
+    }
+
+    /** The number of the first token is a number as any other. */
+    private static void tokenZero() {
+        TokenHeart x = new TokenHeart();
+        x.act(0, Due.MAKE, 0, Due.bc(Due.PAGE, 1));
+        x.act(0, Due.MAKE, 0, Due.bc(Due.PAGE, 2));
+        x.act(0, Due.DROP, 0, 0);
+        x.act(0, Due.LEND, 1, Due.bc(0, 3));
+        due.is("the least number", x.slot(0, 3), 0);
+        due.is("below", x.below(1), 1);
+        x.act(0, Due.SEAL, 3, Due.bc(2, 0));
+        x.act(0, Due.DROP, 2, 0);
+        due.is("its seal", x.token(0, 7), 40);
+        x.act(0, Due.TAKE, 1, 0);
+        due.is("doomed", x.token(0, 9), 1);
+        due.is("doomed", x.count(3), 1);
+        x.run(1);
+        due.is("gone", x.slot(0, 3), -1);
+        x.act(0, Due.LEND, 1, Due.bc(0, 3));
+        x.act(0, Due.LEND, 3, Due.bc(0, 4));
+        due.is("below 0", x.below(0), 1);
+        x.act(0, Due.DROP, 3, 0);
+        due.is("gone with it", x.slot(0, 4), -1);
+        x.act(0, Due.LEND, 1, Due.bc(0, 3));
+        x.act(0, Due.DROP, 1, 0);
+        due.is("all are gone", x.count(2), 0);
+        due.is("and the page", x.count(1), 1);
+        due.is("room in all", x.count(4), 960);
     }
 }

@@ -37,7 +37,7 @@ public final class ModelTest {
     }
 
     private boolean play() {
-        int flavour = (int) (seed % 5);
+        int flavour = (int) (seed % 6);
         setUp(flavour);
         for (int i = 0; i < CALLS && !wrong; i++) {
             call();
@@ -161,8 +161,11 @@ public final class ModelTest {
         for (int i = 0; i < 6; i++) {
             act(0, 18, slotWith(0, 0), bc(slotWith(0, 11), roll(10)));
         }
-        if (flavour < 4) {
-            int runners = 2 + roll(4);
+        if (flavour == 5) {
+            act(0, 14, 0, 0);
+        }
+        if (flavour != 4) {
+            int runners = 2 + roll(7);
             for (int i = 0; i < runners; i++) {
                 newRunner(flavour);
             }
@@ -265,8 +268,14 @@ public final class ModelTest {
             due("run(" + n + ")", x.run(n), m.run(n));
         } else if (kind < 78) {
             callOfRunners();
-        } else if (kind < 88) {
+        } else if (kind < 87) {
             callOfWires();
+        } else if (kind < 89) {
+            if (maybe(50)) {
+                due("image()", x.image(), m.image());
+            } else {
+                due("back()", x.back(), m.back());
+            }
         } else if (kind < 94) {
             callOfTrials();
         } else {
@@ -278,7 +287,7 @@ public final class ModelTest {
         int r = anyRunner();
         int kind = roll(10);
         if (kind < 2) {
-            newRunner((int) (seed % 5));
+            newRunner((int) (seed % 6));
         } else if (kind < 4) {
             int box = m.isRunner(r) ? m.w.runners.get(r).box : 0;
             int s = maybe(20) ? -1 : slotWith(box, 12);

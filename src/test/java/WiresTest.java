@@ -55,6 +55,14 @@ public final class WiresTest {
         due.is("held now", x.could(0, 1), 15);
         due.is("room isn't held", x.could(0, 0), 0);
         due.is("never", x.when(0, 0, 1), -1);
+        TokenHeart y = with(0, Due.PAGE, Due.PAGE);
+        y.act(0, Due.DROP, 0, 0);
+        y.act(0, Due.LEND, 1, Due.bc(0, 0));
+        due.is("token 0", y.slot(0, 0), 0);
+        y.act(0, Due.SEAL, 1, Due.bc(2, 0));
+        due.is("by token 0", y.when(0, 1, 15), 0);
+        y.act(0, Due.SEAL, 0, Due.bc(2, 0));
+        due.is("token 0 is sealed", y.when(0, 1, 15), 1);
         x.act(0, Due.NARROW, 1, Due.bc(1, 3));
         x.act(0, Due.NARROW, 2, Due.bc(2, 4));
         x.act(0, Due.NARROW, 2, Due.bc(4, 5));
@@ -130,6 +138,10 @@ public final class WiresTest {
         due.is("not the other way", x.could(2, 4), 0);
         x = wired(Due.GATE, "gets 1 2 lt;gets 1 4 lr;gets 2 5 lrt");
         due.is("neither", x.could(1, 5) + x.could(2, 4), 0);
+        x = wired(Due.GATE, "gets 1 0 w;gets 1 4 lr;gets 2 0 r;gets 0 5 lw");
+        due.is("WRITE of box 0", x.when(0, 4, 5), 1);
+        due.is("READ of box 0", x.when(2, 5, 6), 1);
+        due.is("by two of them", x.when(2, 4, 5), 2);
         x = wired(Due.GATE, "gets 1 1 rw;gets 1 4 lr;gets 1 4 w");
         due.is("of itself", x.could(1, 4), 7);
     }
@@ -199,6 +211,15 @@ public final class WiresTest {
         due.is("it holds now", x.show(1), -1);
         due.is("READ, WRITE, LEND of one thing: any of them", Due.read(x, "gets 1 6 w"), 1);
         due.is("apart", x.show(3), 0);
+        String[] rights = {"r", "w", "l", "t"};
+        for (String a : rights) {
+            for (String b : rights) {
+                x = wired(Due.PAGE, "gets 1 5 " + a + ";gets 2 5 " + b + ";apart 1 2;apart 2 1");
+                int want1 = a.equals("t") || b.equals("t") ? -1 : 0;
+                due.is("apart with " + a + ", " + b, x.show(0), want1);
+                due.is("apart with " + b + ", " + a, x.show(1), want1);
+            }
+        }
     }
 
     // Promises 27 and 28
@@ -432,5 +453,82 @@ public final class WiresTest {
         due.is("another image", x.image(), 5);
         x.run(1);
         due.is("back to that", x.back(), 5);
+        imageOfRows();
+        imageOfCalls();
+        imageOfNone();
+    }
+
+    private static void imageOfRows() {
+        TokenHeart x = with(0, Due.LINE);
+        Due.rows(x, 0, 1, 2, 3);
+        Due.rows(x, 1, 4, 5);
+        x.in(1, 0);
+        x.store(0, 1, 50);
+        Due.rows(x, 2, 0, -1);
+        x.time(2);
+        x.rule(1);
+        Due.runner(x, 0, 2, 1, 0, 0, 3, 0, 0, 0);
+        x.image();
+        x.act(0, Due.DROP, 1, 0);
+        x.act(0, Due.MAKE, 0, Due.bc(Due.LINE, 1));
+        x.in(1, 1);
+        x.store(0, 1, 60);
+        Due.rows(x, 2, -1, 0);
+        x.time(2);
+        x.back();
+        due.is("out", x.out(1, 0), 50);
+        due.is("how many of in", x.thing(1, 5), 3);
+        due.is("in", x.load(0, 1), 1);
+        due.is("the row of time", x.run(1), 1);
+        due.is("the row of time", x.run(1), 0);
+    }
+
+    private static void imageOfCalls() {
+        TokenHeart x = with(0, Due.GATE, Due.PAGE);
+        int first = Due.runner(x, 0, 15, 1, -1, 5, 15, 1, 2, -1);
+        int second = Due.runner(x, 0, 15, 1, 2, -1, 15, 1, -1, -1);
+        int server = Due.runner(x, 0, 16, 1, 6, -1, 17, 0, 2, -1, 3, 0, 0, 0, 16, 1, 6, -1, 17, 0, -1, -1);
+        x.tell(first, 1);
+        x.run(3);
+        due.is("it serves", x.look(server, 7), first);
+        x.image();
+        x.run(5);
+        x.back();
+        due.is("who serves it", x.look(first, 6), server);
+        due.is("whom it serves", x.look(server, 7), first);
+        due.is("the other calls", x.look(second, 1), 2);
+        x.run(1);
+        due.is("the answer comes to the slot told then", x.slot(0, 5) >= 0 ? 1 : 0, 1);
+        x.run(1);
+        due.is("the first calls again", x.look(first, 1), 2);
+        x.image();
+        x.run(2);
+        due.is("what the second lends", x.token(x.slot(0, 6), 1), 2);
+        due.is("it called longer", x.look(server, 7), second);
+        x.back();
+        x.run(2);
+        due.is("again", x.look(server, 7), second);
+        due.is("again", x.token(x.slot(0, 6), 1), 2);
+    }
+
+    /** What comes behind the image is all gone, whatever had its numbers. */
+    private static void imageOfNone() {
+        TokenHeart x = with(0, Due.GATE);
+        x.image();
+        int r = Due.runner(x, 0, 1, 5, 0, 0, 16, 1, -1, -1);
+        x.keeper(r, 1);
+        x.run(3);
+        due.is("wish", Due.read(x, "never 0 1 rwl"), 1);
+        x.act(0, Due.DROP, 1, 0);
+        x.back();
+        due.is("no runner", x.look(0, 1), -3);
+        due.is("no wish", x.show(0), -3);
+        due.is("another one", Due.runner(x, 0, 0, 0, 0, 0), 0);
+        int[] want = {0, 0, 0, 0, -1, -1, -1, -1, 1};
+        for (int what = 0; what < 9; what++) {
+            due.is("new: look(0, " + what + ")", x.look(0, what), want[what]);
+        }
+        due.is("another wish", Due.read(x, "never 0 1 t"), 1);
+        due.is("is not over", x.show(0), 0);
     }
 }
