@@ -252,6 +252,16 @@ public final class MeetingsTest {
         due.is("nobody's keeper", x.look(second, 4), -1);
         x.run(2);
         due.is("no gate any more", x.count(10), 2);
+
+        // its first token, and one that isn't below another, are as all others
+        x = withGate(Due.PROMISE);
+        x.act(0, Due.DROP, 0, 0);
+        due.is("token 0", Due.read(x, "gets 0 2 rw"), 1);
+        Due.runner(x, 1, WAIT, 0, -1, -1, ANSWER, 0, -1, -1);
+        Due.runner(x, 0, CALL, 0, -1, -1);
+        x.run(3);
+        due.is("gone", x.slot(0, 0), -1);
+        due.is("gone", x.thing(2, 0), -3);
     }
 
     private static void leftAlone() {

@@ -57,12 +57,11 @@ public final class WiresTest {
         due.is("never", x.when(0, 0, 1), -1);
         TokenHeart y = with(0, Due.PAGE, Due.PAGE);
         y.act(0, Due.DROP, 0, 0);
-        y.act(0, Due.LEND, 1, Due.bc(0, 0));
-        due.is("token 0", y.slot(0, 0), 0);
-        y.act(0, Due.SEAL, 1, Due.bc(2, 0));
-        due.is("by token 0", y.when(0, 1, 15), 0);
+        due.is("token 0", Due.read(y, "gets 0 1 rl"), 1);
+        y.act(0, Due.DROP, 1, 0);
+        due.is("by token 0", y.when(0, 1, 5), 0);
         y.act(0, Due.SEAL, 0, Due.bc(2, 0));
-        due.is("token 0 is sealed", y.when(0, 1, 15), 1);
+        due.is("token 0 is sealed", y.when(0, 1, 5), 1);
         x.act(0, Due.NARROW, 1, Due.bc(1, 3));
         x.act(0, Due.NARROW, 2, Due.bc(2, 4));
         x.act(0, Due.NARROW, 2, Due.bc(4, 5));
@@ -211,6 +210,8 @@ public final class WiresTest {
         due.is("it holds now", x.show(1), -1);
         due.is("READ, WRITE, LEND of one thing: any of them", Due.read(x, "gets 1 6 w"), 1);
         due.is("apart", x.show(3), 0);
+        x = wired(Due.PAGE, "gets 1 0 r;gets 2 0 w;apart 1 2");
+        due.is("apart, of thing 0", x.show(0), 0);
         String[] rights = {"r", "w", "l", "t"};
         for (String a : rights) {
             for (String b : rights) {
@@ -455,30 +456,31 @@ public final class WiresTest {
         due.is("back to that", x.back(), 5);
         imageOfRows();
         imageOfCalls();
+        imageOfWaitingCalls();
         imageOfNone();
     }
 
     private static void imageOfRows() {
-        TokenHeart x = with(0, Due.LINE);
+        TokenHeart x = with(0, Due.PAGE, Due.PAGE, Due.PAGE, Due.PAGE, Due.LINE);
         Due.rows(x, 0, 1, 2, 3);
         Due.rows(x, 1, 4, 5);
-        x.in(1, 0);
-        x.store(0, 1, 50);
+        x.in(5, 0);
+        x.store(0, 5, 50);
         Due.rows(x, 2, 0, -1);
         x.time(2);
         x.rule(1);
         Due.runner(x, 0, 2, 1, 0, 0, 3, 0, 0, 0);
         x.image();
-        x.act(0, Due.DROP, 1, 0);
-        x.act(0, Due.MAKE, 0, Due.bc(Due.LINE, 1));
-        x.in(1, 1);
-        x.store(0, 1, 60);
+        x.act(0, Due.DROP, 5, 0);
+        x.act(0, Due.MAKE, 0, Due.bc(Due.LINE, 5));
+        x.in(5, 1);
+        x.store(0, 5, 60);
         Due.rows(x, 2, -1, 0);
         x.time(2);
         x.back();
-        due.is("out", x.out(1, 0), 50);
-        due.is("how many of in", x.thing(1, 5), 3);
-        due.is("in", x.load(0, 1), 1);
+        due.is("out", x.out(5, 0), 50);
+        due.is("how many of in", x.thing(5, 5), 3);
+        due.is("in", x.load(0, 5), 1);
         due.is("the row of time", x.run(1), 1);
         due.is("the row of time", x.run(1), 0);
     }
@@ -509,6 +511,26 @@ public final class WiresTest {
         x.run(2);
         due.is("again", x.look(server, 7), second);
         due.is("again", x.token(x.slot(0, 6), 1), 2);
+    }
+
+    /** Who called longest, and with what, is as it was then. */
+    private static void imageOfWaitingCalls() {
+        TokenHeart x = with(0, Due.GATE, Due.PAGE);
+        int first = Due.runner(x, 0, 15, 1, -1, -1, 15, 1, -1, -1);
+        int second = Due.runner(x, 0, 15, 1, 2, -1, 15, 1, -1, -1);
+        int server = Due.runner(x, 0, 16, 1, 6, -1, 17, 0, -1, -1, 16, 1, -1, -1, 17, 0, -1, -1);
+        int[] order = {second, first, server, server, server, server, first, second};
+        Due.rows(x, 0, order);
+        x.time(0);
+        x.rule(1);
+        x.run(2);
+        x.image();
+        due.is("all of them", x.run(6), 6);
+        due.is("both call again", x.look(first, 1) + x.look(second, 1), 4);
+        x.back();
+        x.run(1);
+        due.is("the second called first then", x.look(server, 7), second);
+        due.is("with the page", x.token(x.slot(0, 6), 1), 2);
     }
 
     /** What comes behind the image is all gone, whatever had its numbers. */
