@@ -36,6 +36,11 @@ public final class RunnersEdgesTest {
         promiseEdges();
         gateThatGoes();
         boxThatGoes();
+        thingsByNumbers();
+        tablesBehindThings();
+        lastTickOfCalls();
+        slotOnlyIfLent();
+        onceIsThereTillDone();
         fairTurns();
         rowTurns();
         rowHandsOn();
@@ -617,6 +622,154 @@ public final class RunnersEdgesTest {
         drop(x, 1);
         state(x, low, "STOPPED first", 3, 1, 0, -1, -1, -1);
         state(x, high, "so this was left alone, and is at no gate", 0, 1, -1, -1, -1, -1);
+    }
+
+    /**
+     * Box 1 has the last tokens of what is told: one of runner c, that calls at gate cs, one of s, that
+     * serves it and calls at gate ss. Box 2, if box 1 has it, may have some, too.
+     */
+    private static TokenHeart twoCalls(int c, int s, int cs, int ss, String where) {
+        TokenHeart x = new TokenHeart();
+        int[] kinds = {Due.BOX, Due.BOX, Due.GATE, Due.GATE, Due.GATE};
+        for (int i = 0; i < 5; i++) {
+            x.act(0, Due.MAKE, 0, Due.bc(kinds[i], 1 + i));
+        }
+        due.is("the last tokens", Due.read(x, where) > 0 ? 1 : 0, 1);
+        for (int r = 0; r < 2; r++) {
+            if (r == c) {
+                Due.runner(x, 0, CALL, cs, -1, -1);
+            } else {
+                Due.runner(x, 0, WAIT, cs, -1, -1, CALL, ss, -1, -1);
+            }
+        }
+        turns(x, s, c, s);
+        state(x, s, "it serves, and calls", 2, 1, 0, ss, -1, c);
+        for (int slot = 2; slot <= 5; slot++) {
+            drop(x, slot);
+        }
+        drop(x, 1);
+        due.is("all are gone", x.count(1), 1);
+        due.is("all room is back", x.token(0, 3), 960);
+        due.is("no FAULT", x.count(10), 0);
+        return x;
+    }
+
+    // 'then THINGS by numbers'
+    private static void thingsByNumbers() {
+        String all = "gets 1 2 t;gets 1 3 t;gets 1 4 t;gets 1 5 t";
+        for (int c = 0; c < 2; c++) {
+            int s = 1 - c;
+            TokenHeart x = twoCalls(c, s, 3, 5, all);
+            state(x, c, "the gate of the one that is served first", 3, 0, 0, -1, -1, -1);
+            state(x, s, "then that of the one that serves", 3, 1, 0, -1, -1, -1);
+            x = twoCalls(c, s, 5, 3, all);
+            state(x, s, "the gate of the one that serves first", 3, 1, 0, -1, -1, -1);
+            state(x, c, "so the other is left alone, at no gate", 0, 1, -1, -1, -1, -1);
+        }
+    }
+
+    // 'TOKENS of a BOX that is gone go behind all THINGS of that pass'
+    private static void tablesBehindThings() {
+        for (int c = 0; c < 2; c++) {
+            int s = 1 - c;
+            // gate 3 is in box 2, that goes in the pass of gates 4 and 5: it goes behind them
+            TokenHeart x = twoCalls(c, s, 5, 3, "gets 1 2 t;gets 2 3 t;gets 1 4 t;gets 1 5 t");
+            state(x, c, "gate 5 ahead of gate 3", 3, 0, 0, -1, -1, -1);
+            state(x, s, "gate 3 behind gate 5", 3, 1, 0, -1, -1, -1);
+            x = twoCalls(c, s, 3, 5, "gets 1 2 t;gets 2 3 t;gets 1 4 t;gets 1 5 t");
+            state(x, s, "gate 5 ahead of gate 3", 3, 1, 0, -1, -1, -1);
+            state(x, c, "so the other is left alone", 0, 1, -1, -1, -1, -1);
+            x = twoCalls(c, s, 3, 5, "gets 1 2 t;gets 2 3 t;gets 1 4 t;gets 2 5 t");
+            state(x, c, "both in box 2: by numbers again", 3, 0, 0, -1, -1, -1);
+        }
+    }
+
+    // 'By .. CALL, ANSWER the last TICK comes with what is LENT'
+    private static void lastTickOfCalls() {
+        for (int later = 0; later < 2; later++) {
+            TokenHeart x = begun();
+            int c = Due.runner(x, 0, CALL, 1, 3, 8);
+            int w = Due.runner(x, 2, WAIT, 1, 5, -1, ANSWER, 0, 5, -1);
+            x.act(0, Due.TILL, 3, Due.bc(60, 0));
+            turns(x, later == 1 ? c : w, later == 1 ? w : c);
+            due.is("by the CALL", x.token(x.slot(2, 5), 8), 60);
+            due.is("a LENT one", x.token(x.slot(2, 5), 0), 1);
+            x.act(2, Due.TILL, 5, Due.bc(40, 0));
+            turns(x, w);
+            due.is("by the ANSWER", x.token(x.slot(0, 8), 8), 40);
+            due.is("a LENT one", x.token(x.slot(0, 8), 0), 1);
+            due.is("the first has its own", x.token(x.slot(0, 3), 8), 60);
+            // at its last TICK it may be lent still, behind it no more
+            for (int over = 0; over < 2; over++) {
+                x = begun();
+                c = Due.runner(x, 0, CALL, 1, 3, 8);
+                w = Due.runner(x, 2, WAIT, 1, 5, -1);
+                x.act(0, Due.TILL, 3, Due.bc(1 - over, 0));
+                turns(x, later == 1 ? c : w, later == 1 ? w : c);
+                due.is("as it is TAKEN", x.look(c, 1), over == 1 ? 3 : 2);
+            }
+        }
+    }
+
+    // 'The SLOT into which something comes is looked at only if something is LENT'
+    private static void slotOnlyIfLent() {
+        int[] slots = {-1, 0, 1, 4, 9};
+        for (int slot : slots) {
+            for (int later = 0; later < 2; later++) {
+                TokenHeart x = begun();
+                int c = Due.runner(x, 0, CALL, 1, -1, slot);
+                int w = Due.runner(x, 2, WAIT, 1, slot, -1, ANSWER, 0, -1, -1);
+                turns(x, later == 1 ? c : w, later == 1 ? w : c);
+                state(x, w, "a CALL with nothing, to slot " + slot, 0, 1, 0, -1, -1, c);
+                turns(x, w);
+                state(x, c, "an ANSWER with nothing, to slot " + slot, 0, 1, 0, -1, -1, -1);
+                due.is("no FAULT", x.count(10), 0);
+            }
+        }
+    }
+
+    // 'its SLOT and number are not free for that; one of a CALL that is a FAULT stays'
+    private static void onceIsThereTillDone() {
+        TokenHeart x = begun();
+        int w = Due.runner(x, 0, WAIT, 1, 7, -1);
+        turns(x, w);
+        x.act(0, Due.ONCE, 1, Due.bc(0, 7));
+        int c = Due.runner(x, 0, CALL, 7, 3, -1);
+        turns(x, c);
+        state(x, c, "its slot isn't free", 3, 0, 0, -1, -1, -1);
+        due.is("it stays", x.token(x.slot(0, 7), 0), 3);
+        x.act(0, Due.LEND, 1, Due.bc(0, 8));
+        int d = Due.runner(x, 0, CALL, 7, -1, 7);
+        turns(x, d);
+        state(x, d, "nothing is lent", 2, 0, 0, 1, w, -1);
+        due.is("it is used up", x.slot(0, 7), -1);
+        // its own number: the only one that could become free
+        x = begun();
+        x.act(0, Due.ONCE, 2, Due.bc(0, 9));
+        for (int box = 0; box <= 2; box += 2) {
+            for (int slot = 0; slot < 10; slot++) {
+                if (x.slot(box, slot) == -1 && 10 * box + slot != 29) {
+                    due.is("fill", Due.read(x, "gets " + box + " 3 l"), 1);
+                }
+            }
+        }
+        x.act(0, Due.DROP, 8, 0);
+        for (int many = x.count(2); many < 120;) {
+            x.act(0, Due.MAKE, 0, Due.bc(Due.BOX, 8));
+            int box = x.token(x.slot(0, 8), 1);
+            due.is("it keeps itself", Due.read(x, "gets " + box + " " + box + " t"), 1);
+            drop(x, 8);
+            for (many = x.count(2); many < 120 && x.slot(box, 9) == -1; many++) {
+                due.is("fill", Due.read(x, "gets " + box + " 3 l"), 1);
+            }
+        }
+        due.is("tokens", x.count(2), 120);
+        due.is("PUT into a slot that is empty", x.slot(2, 9), -1);
+        due.is("but no number is free", x.act(0, Due.PUT, 3, Due.bc(9, 9)), -7);
+        due.is("it stays", x.token(x.slot(0, 9), 0), 3);
+        x.act(0, Due.DROP, 7, 0);
+        due.is("one is", x.act(0, Due.PUT, 3, Due.bc(9, 9)), 1);
+        due.is("it is used up", x.slot(0, 9), -1);
     }
 
     // 'the READY one that comes first behind the one chosen last (round; from 0 at first)'
