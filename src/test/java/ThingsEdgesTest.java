@@ -251,6 +251,26 @@ public final class ThingsEdgesTest {
         due.is("what isn't below stays", x.slot(0, 4) >= 0 ? 1 : 0, 1);
         due.is("the first, too", x.below(1), 1);
         due.is("the page, too", x.thing(1, 3), 2);
+        goneWhateverTheNumbers();
+    }
+
+    /** One far below has a lesser number than those between. */
+    private static void goneWhateverTheNumbers() {
+        TokenHeart x = new TokenHeart();
+        x.act(0, Due.SPLIT, 0, Due.bc(10, 1));
+        x.act(0, Due.SPLIT, 0, Due.bc(500, 2));
+        x.act(0, Due.SPLIT, 2, Due.bc(300, 3));
+        x.act(0, Due.SPLIT, 3, Due.bc(200, 4));
+        drop(x, 1);
+        x.act(0, Due.SPLIT, 4, Due.bc(100, 1));
+        due.is("the least number", x.slot(0, 1), 1);
+        due.is("of 4", x.token(1, 4), 4);
+        due.is("below 2", x.isBelow(1, 2), 1);
+        due.is("below all", x.below(0) * 1000 + x.below(2) * 100 + x.below(3) * 10 + x.below(4), 4321);
+        due.is("drop 3", drop(x, 3), 1);
+        due.is("all below it", x.slot(0, 1) + x.slot(0, 3) + x.slot(0, 4), -3);
+        due.is("back to the lender", x.token(2, 3), 500);
+        due.is("tokens", x.count(2), 2);
     }
 
     // 'What ROOM it has goes back to its LENDER'
@@ -560,6 +580,13 @@ public final class ThingsEdgesTest {
         x.act(0, Due.TAKE, 1, 0);
         due.is("open a doomed one", x.act(0, Due.OPEN, 4, Due.bc(2, 0)), 1);
         due.is("open", x.token(x.slot(0, 4), 7), -1);
+        // thing 0 seals as others do
+        due.is("a token of it", Due.read(x, "gets 0 0 rw"), 1);
+        due.is("seal by box 0", x.act(0, Due.SEAL, 3, Due.bc(5, -1)), 1);
+        due.is("sealed by", x.token(x.slot(0, 3), 7), 0);
+        due.is("open by box 0", x.act(0, Due.OPEN, 3, Due.bc(5, -1)), 1);
+        due.is("open", x.token(x.slot(0, 3), 7), -1);
+        drop(x, 5);
         // one that seals itself
         due.is("seal itself", x.act(0, Due.SEAL, 2, Due.bc(2, 0)), 1);
         due.is("it can't open itself", x.act(0, Due.OPEN, 2, Due.bc(2, 0)), -7);

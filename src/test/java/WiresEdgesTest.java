@@ -16,7 +16,13 @@ public final class WiresEdgesTest {
         longChain();
         allAtOnce();
         sealedFromTheRoundBehind();
+        sealedAddsToWhatIsHeld();
         sealedInOtherBoxes();
+        firstBoxIsABox();
+        firstThingIsAThing();
+        ofOneBoxAlone();
+        whatWasHeldIsForgotten();
+        lastNumbers();
         whenAtTheEdges();
         neverIsNone();
         apartIsAnyOfThree();
@@ -223,6 +229,20 @@ public final class WiresEdgesTest {
         due.is("3", x.when(0, 1, 15), 3);
     }
 
+    /** What is sealed comes to what is held of the same thing by others, and takes nothing away. */
+    private static void sealedAddsToWhatIsHeld() {
+        TokenHeart x = small("gets 2 5 rl;gets 2 6 rw;gets 2 5 w;gets 3 5 t");
+        due.is("sealed", x.act(2, Due.SEAL, 0, Due.bc(1, -1)), 1);
+        for (int rights = 1; rights < 8; rights++) {
+            due.is("when, rights " + rights, x.when(2, 5, rights), rights == 2 ? 0 : 1);
+        }
+        due.is("all of both", x.could(2, 5), 7);
+        due.is("and box 2 to box 3", Due.read(x, "gets 2 3 w"), 1);
+        due.is("in round 2", x.when(3, 5, 7), 2);
+        due.is("all of all three", x.could(3, 5), 15);
+        due.is("but not to box 2", x.could(2, 5), 7);
+    }
+
     /** A sealed token in a box counts for that box; box 5 has to come to READ by itself. */
     private static void sealedInOtherBoxes() {
         TokenHeart x = small("gets 1 2 w;gets 2 5 rl");
@@ -237,6 +257,79 @@ public final class WiresEdgesTest {
         due.is("READ comes in round 1, the page in round 2", x.when(2, 5, 5), 2);
         x.act(0, Due.DROP, 1, 0);
         due.is("others hold it", x.when(2, 5, 5), 2);
+    }
+
+    // 'what BOXES could ever hold': of box 0, too
+    private static void firstBoxIsABox() {
+        for (String way : new String[] {"gets 0 4 w;gets 2 4 r", "gets 0 4 r;gets 2 4 w"}) {
+            TokenHeart x = small(way + ";gets 0 5 rl;gets 2 6 wl");
+            due.is("0 to 2", x.when(2, 5, 5), 1);
+            due.is("2 to 0", x.when(0, 6, 6), 1);
+            due.is("not to 3", x.could(3, 5) + x.could(3, 6), 0);
+        }
+    }
+
+    // 'RIGHTS of a THING': of thing 0, too
+    private static void firstThingIsAThing() {
+        TokenHeart x = small("gets 2 0 wl;gets 2 3 w;apart 3 1");
+        due.is("to 3", x.when(3, 0, 6), 1);
+        due.is("thing 0 alone", x.could(3, 5) + x.could(3, 6), 0);
+        due.is("1 has none of it", x.show(0), -1);
+        due.is("gets", Due.read(x, "gets 1 0 l"), 1);
+        due.is("now it has", x.show(0), 1);
+        x = small("gets 2 0 rl;gets 0 2 r");
+        due.is("box 0 of itself, and nothing else changes", x.when(0, 0, 5), 1);
+        due.is("in all", x.could(0, 0), 5);
+    }
+
+    /** What stands next to a box's things, or a thing's boxes, isn't its own. */
+    private static void ofOneBoxAlone() {
+        TokenHeart x = small("gets 2 0 r;gets 3 0 r;apart 1 2;apart 2 3");
+        due.is("1 has nothing of 0", x.show(0), -1);
+        due.is("2 and 3 have", x.show(1), 0);
+        x = small("gets 1 2 w;gets 2 0 wl");
+        due.is("nothing comes to 3", x.could(3, 0), 0);
+        due.is("nothing comes to 1", x.could(1, 0), 0);
+    }
+
+    /** Each answer is of what is in the tables now. */
+    private static void whatWasHeldIsForgotten() {
+        for (int box = 0; box <= 2; box += 2) {
+            TokenHeart x = small("gets 0 4 w;gets 2 4 r;gets 0 5 rl");
+            due.is("by the gate", x.could(2, 5), 5);
+            due.is("by the gate", x.when(2, 5, 5), 1);
+            due.is("without it", x.act(box, Due.DROP, box == 0 ? 1 : 0, 0), 1);
+            due.is("nothing", x.could(2, 5), 0);
+            due.is("never", x.when(2, 5, 1), -1);
+        }
+    }
+
+    /** Things 1 to 39, of which 1 to 5, 38, 39 are boxes; each is kept by a token in boxes 1 to 4. */
+    private static void lastNumbers() {
+        TokenHeart x = new TokenHeart();
+        for (int i = 1; i <= 39; i++) {
+            x.act(0, Due.MAKE, 0, Due.bc(i <= 5 || i >= 38 ? Due.BOX : Due.CLOCK, 1));
+            due.is("keep", Due.read(x, "gets " + (1 + (i - 1) / 10) + " " + i + " t"), 1);
+            x.act(0, Due.DROP, 1, 0);
+        }
+        due.is("things", x.count(1), 40);
+        due.is("gets", Due.read(x, "gets 38 39 rwl;gets 38 37 rl;gets 5 38 r;apart 5 39;never 39 39 t"), 5);
+        for (int box = 0; box < 40; box++) {
+            for (int thing = 0; thing < 40; thing++) {
+                boolean isBox = box <= 5 || box >= 38;
+                int kept = box >= 1 && box <= 4 && thing >= 1 && (thing - 1) / 10 + 1 == box ? 8 : 0;
+                int more = box != 5 && box < 38 ? 0 : thing == 39 ? 7 : thing == 37 ? 5 : 0;
+                int want = isBox ? kept + more + (box == 5 && thing == 38 ? 1 : 0) : -3;
+                due.is("could(" + box + ", " + thing + ")", x.could(box, thing), want);
+            }
+        }
+        due.is("to 39 in round 1", x.when(39, 37, 5), 1);
+        due.is("to 5 in round 1", x.when(5, 39, 7), 1);
+        due.is("apart till then", x.show(0), 1);
+        due.is("never", x.show(1), -1);
+        due.is("no thing 40", x.could(39, 40), -3);
+        due.is("no box 40", x.could(40, 39), -3);
+        due.is("no thing 40", Due.read(x, "gets 39 40 r"), -7);
     }
 
     // 'all of told RIGHTS (1 .. 15)'; 'NONE: never'
