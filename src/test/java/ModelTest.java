@@ -250,7 +250,7 @@ public final class ModelTest {
         int kind = roll(100);
         if (kind < 42) {
             int box = anyBox();
-            int[] often = {6, 7, 8, 8, 18, 18, 19, 6, 7};
+            int[] often = {6, 7, 8, 8, 18, 18, 19, 6, 7, 11, 11, 12};
             int what = maybe(35) ? often[roll(often.length)] : maybe(3) ? roll(25) - 1 : 6 + roll(15);
             int[] d = deed(box, what);
             act(box, what, d[0], maybe(1) ? -roll(3) : bc(d[1], d[2]));
@@ -464,6 +464,13 @@ public final class ModelTest {
         }
         for (int wish = -1; wish <= m.w.wishes.size(); wish++) {
             due("show(" + wish + ")", x.show(wish), m.show(wish));
+        }
+        for (int i = 0; i < 3; i++) {
+            int box = anyBox();
+            int thing = anyThing();
+            due("could(" + box + ", " + thing + ")", x.could(box, thing), m.could(box, thing));
+            int rights = 1 + roll(15);
+            due("when(" + box + ", " + thing + ", " + rights + ")", x.when(box, thing, rights), m.when(box, thing, rights));
         }
         for (int by = -9; by <= -1; by++) {
             due("status(" + by + ")", x.status(by), m.status(by));
